@@ -157,8 +157,10 @@ public final class SunBenchPromises {
         due("the row stays", x.set(0, 2, 9), 9);
         due("in place", x.row(0, 0, 3), 3);
         x.row(2, 0, 3);
-        x.copy(0, 0, 2, 0, 3);
-        due("items are 0 again: as they count", x.count(0), 4);
+        due("rows", x.count(0), 4);
+        feed(x, "b0,0;s0,1;");
+        x.bench();
+        due("items are 0 again: nobody sits", x.rang(0, 2, 1), 128);
         due("another lane", x.row(0, 1, 1), 1);
         due("two lanes now", x.copy(0, 0, 2, 0, 1), STORE);
     }
@@ -304,12 +306,14 @@ public final class SunBenchPromises {
         x.june(1);
         x.hours(3);
         x.snuff(0);
+        x.most(2, 0);
         feed(x, "b0,9;");
         due("a fault", x.bench(), -1000105);
         due("men stay", x.count(1), 2);
         due("hour stays", x.count(3), 3);
         due("snuff stays", x.count(4), 1);
         due("acts stay", x.count(6), 5);
+        x.most(2, 0);
         feed(x, "b1,2;d5,6;n7,8;a9,1;");
         due("another", x.bench(), 3);
         due("sits", seats(x), 1012);
@@ -640,9 +644,13 @@ public final class SunBenchPromises {
         x = told("b12,1;b0,1;");
         x.hours(13);
         due("23", x.sunny(0), 23);
-        // 60 at most: two go ahead of him, a day each
-        x = told("b12,1;s12,1;s12,1;b0,1;");
+        x = told("b12,1;s12,1;b0,1;");
         due("ahead of the call", x.sunny(0), 12);
+        // the sitter goes in HOUR 13, the doctor, in the sun by that, in HOUR 36, behind the bore's look at it
+        x = told("b12,1;s13,1;d12,1;b0,1;");
+        due("60 at most", x.sunny(2), 60);
+        x = told("b13,1;s14,1;d13,1;b0,1;");
+        due("not 61", x.sunny(2), NONE);
         x = told("b0,0;b0,1;");
         due("no sun at all", x.sunny(0), NONE);
         x.leave(0);
@@ -816,6 +824,9 @@ public final class SunBenchPromises {
         x = told("b0,1;d0,9;b1,1;");
         due("1", x.elm(1), 2);
         due("nothing changes", x.sun(0), 1);
+        // with less sun the doctor stays, and is warm an HOUR later: more, not less
+        x = told("b1,3;b9,1;d0,9;");
+        due("nobody", x.elm(2), 0);
     }
 
     private static void lasts() {
