@@ -1386,6 +1386,8 @@ public final class SunBenchEdges {
             whenToCome 0 25 1 = 2
             whenToCome 0 40 0 = 0
             """);
+        // while he waits others are called: the place in the sun is free behind HOUR 3
+        each("told b5,1;s3,9;s4,9;\nleave 1\n", "whenToCome 1 6 0 = 5\nwhenToCome 1 6 1 = 1\nwhenToCome 1 5 1 = 0\n");
         each("told b0,1;b5,1;\nhours 1\nleave 0\n", "whenToCome 0 23 1 = 0\nwhenToCome 0 24 1 = 1\nwhenToCome 0 24 0 = 0\n");
     }
 
@@ -1581,6 +1583,12 @@ public final class SunBenchEdges {
         ends(RICH, "drawn 1 1 #", 0, 1);
         each(RICH, "drawn 0 1 0 = 0\ndrawn 0 1 1 = 6\n");
         each(ONE, "drawn 60 999999 0 = 0\ndrawn 60 999999 1 = 3\n");
+        // others are called on those days, too; all men are added, and no more than there are
+        each("told b0,1;s0,9;\n", "drawn 1 1 1 = 0\ndrawn 60 1 1 = 0\n");
+        each("told b0,9;s0,1;s0,1;s0,1;s0,1;s0,1;s0,1;b0,1;\n", "drawn 1 1 0 = 0\ndrawn 1 1 1 = 1\n");
+        String seven = "told b0,9;b0,1;b0,1;b0,1;b0,1;b0,1;b0,1;b0,1;\n";
+        each(seven, "drawn 0 1 1 = 0\ndrawn 1 1 1 = 7\n");
+        each(seven + "hours 1\n" + ONE, "drawn 0 1 1 = 0\n");
         for (int seed : new int[] {1, 2, 16807, 127773, 999998, 999999}) {
             for (int men : new int[] {2, 5, 7}) {
                 int[] sit = {0, 1, 2, 3, 4, 5, 6};
