@@ -1,3 +1,5 @@
+import java.lang.reflect.Field;
+import java.lang.reflect.Method;
 import java.util.ArrayList;
 import java.util.List;
 
@@ -411,6 +413,7 @@ public final class SunBenchEdges {
         imageEnds();
         kindEnds();
         askEnds();
+        traceAtMost();
         countEnds();
         statusEnds();
         lastCall();
@@ -1709,6 +1712,26 @@ public final class SunBenchEdges {
             trace 3 = 10
             trace 4 = NONE
             """);
+    }
+
+    /** No ask begins more than 6 BODIES: that the first 16 are kept can only be tried from inside. */
+    private static void traceAtMost() {
+        try {
+            SunBench x = new SunBench();
+            Field kept = SunBench.class.getDeclaredField("asks");
+            kept.setAccessible(true);
+            Object asks = kept.get(x);
+            Method leave = asks.getClass().getDeclaredMethod("leaveInTrace", int.class);
+            leave.setAccessible(true);
+            for (int body = 0; body < 20; body++) {
+                leave.invoke(asks, body + 100);
+            }
+            for (int i = 0; i < 20; i++) {
+                due("trace " + i + " of 20", x.trace(i), i < 16 ? i + 100 : NONE);
+            }
+        } catch (ReflectiveOperationException e) {
+            due("the trace from inside: " + e, 1, 0);
+        }
     }
 
     private static void countEnds() {
