@@ -333,7 +333,7 @@ public final class SunBenchEdges {
     private static List<String> itemsOf(int row) {
         List<String> all = new ArrayList<>(List.of("bench", SEVEN.trim()));
         for (int sit = 7; sit >= 0; sit--) {
-            for (int i = 0; i < 40; i += i < 4 || i > 35 ? 1 : 4) {
+            for (int i = 0; i < 40; i++) {
                 all.add("rang " + row + " " + i + " 1");
             }
             if (sit > 0) {
