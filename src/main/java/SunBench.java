@@ -823,14 +823,17 @@ public final class SunBench {
             return Math.max(0, wide - Math.min(apart, DAY - apart));
         }
 
-        private boolean hasSun(int place) {
-            int sun = sunIn(hour % DAY);
+        private int sunNow() {
+            return sunIn(hour % DAY);
+        }
+
+        private boolean hasSun(int place, int sun) {
             return isJune ? place >= sitting - sun : place < sun;
         }
 
         boolean sitsInSun(int man) {
             int place = placeOf(man);
-            return place >= 0 && hasSun(place);
+            return place >= 0 && hasSun(place, sunNow());
         }
 
         /** -1 for one who does not sit. */
@@ -861,8 +864,9 @@ public final class SunBench {
 
         int sunnyAsBits() {
             int bits = 0;
+            int sun = sunNow();
             for (int place = 0; place < sitting; place++) {
-                bits |= hasSun(place) ? 1 << order[place] : 0;
+                bits |= hasSun(place, sun) ? 1 << order[place] : 0;
             }
             return bits;
         }
@@ -895,10 +899,11 @@ public final class SunBench {
 
         /** How many went; those forgotten (bits) are not called. */
         int passHour(int forgotten) {
+            int sun = sunNow();
             seatWhoIsBack();
-            int went = callToDinner(forgotten);
+            int went = callToDinner(forgotten, sun);
             for (int place = 0; place < sitting; place++) {
-                warm[order[place]] += hasSun(place) ? 1 : 0;
+                warm[order[place]] += hasSun(place, sun) ? 1 : 0;
             }
             hour++;
             return went;
@@ -912,14 +917,14 @@ public final class SunBench {
             }
         }
 
-        private int callToDinner(int forgotten) {
+        private int callToDinner(int forgotten, int sun) {
             int went = 0;
             int place = 0;
             int satAtFirst = sitting;
             for (int looked = 0; looked < satAtFirst; looked++) {
                 int man = order[place];
                 boolean isCalled = isDue(man) && (forgotten & 1 << man) == 0;
-                if (isCalled && goesWhenCalled(man, place)) {
+                if (isCalled && goesWhenCalled(kinds[man], hasSun(place, sun))) {
                     // All behind him move up: the next one is at this same place.
                     unseat(place);
                     back[man] = hour + longs[man];
@@ -935,15 +940,15 @@ public final class SunBench {
             return dinners[man] == hour % DAY;
         }
 
-        private boolean goesWhenCalled(int man, int place) {
-            switch (kinds[man]) {
+        private static boolean goesWhenCalled(int kind, boolean isInSun) {
+            switch (kind) {
                 case Kinds.SITTER:
                 case Kinds.ADMIRAL:
                     return true;
                 case Kinds.NAPPER:
-                    return !hasSun(place);
+                    return !isInSun;
                 case Kinds.DOCTOR:
-                    return hasSun(place);
+                    return isInSun;
                 default:
                     return false;
             }
