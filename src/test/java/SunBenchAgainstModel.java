@@ -18,6 +18,9 @@ import java.util.TreeMap;
 public final class SunBenchAgainstModel {
     private static final int NONE = -1000000, BAD = -1000001, STATE = -1000002, FULL = -1000003;
     private static final int RUNS = 1500, CALLS = 512;
+    // More than a text that is drawn has bytes, or a row that is told has ITEMS.
+    private static final int MOST_AT_ONCE = 100;
+    private static int made = 0;
 
     private static final String[] NAMES = {"row", "set", "copy", "drop", "feed", "bench", "fault", "undo", "hours",
         "snuff", "leave", "come", "june", "man", "place", "sun", "ahead", "sunny", "most", "leastSnuff", "whenToCome",
@@ -32,19 +35,20 @@ public final class SunBenchAgainstModel {
             Random draws = new Random(run);
             SunBench x = new SunBench();
             Model model = new Model();
-            for (int call = 0; call < CALLS; call++) {
-                String name = draws.nextInt(40) == 0 || call == 0 ? "text" : NAMES[draws.nextInt(NAMES.length)];
-                if (name.equals("text")) {
-                    String text = drawText(draws);
-                    for (char c : text.toCharArray()) {
-                        call++;
-                        x.feed(c);
+            made = 0;
+            while (made < CALLS) {
+                boolean hasRoom = made + MOST_AT_ONCE < CALLS;
+                String name = NAMES[draws.nextInt(NAMES.length)];
+                if (hasRoom && (draws.nextInt(40) == 0 || made == 0)) {
+                    for (char c : drawText(draws).toCharArray()) {
+                        real(x, "feed", new int[] {c});
                         model.feed(c);
                     }
                     name = "bench";
                 }
                 int[] a = drawArguments(name, draws, model);
-                if ((name.equals("rang") || name.equals("who")) && model.men() > 0 && draws.nextBoolean()) {
+                boolean isTold = name.equals("rang") || name.equals("who");
+                if (isTold && hasRoom && model.men() > 0 && draws.nextBoolean()) {
                     tellLikely(x, model, name, a, draws);
                 }
                 long due = model.call(name, a);
@@ -52,7 +56,7 @@ public final class SunBenchAgainstModel {
                 (due > -1000000 ? answered : refused).merge(name, 1, Integer::sum);
                 if (got != due) {
                     wrong++;
-                    System.out.println("run " + run + " call " + call + ": " + name + Arrays.toString(a)
+                    System.out.println("run " + run + " call " + made + ": " + name + Arrays.toString(a)
                         + " answered " + got + ", due is " + due);
                     break;
                 }
@@ -161,6 +165,7 @@ public final class SunBenchAgainstModel {
     }
 
     private static long real(SunBench x, String name, int[] a) {
+        made++;
         switch (name) {
             case "row": return x.row(a[0], a[1], a[2]);
             case "set": return x.set(a[0], a[1], a[2]);

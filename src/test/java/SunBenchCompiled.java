@@ -1,10 +1,13 @@
 import java.io.File;
+import java.io.IOException;
 import java.io.PrintWriter;
 import java.io.StringWriter;
 import java.lang.reflect.Array;
+import java.lang.reflect.Executable;
 import java.lang.reflect.Field;
 import java.lang.reflect.Modifier;
 import java.net.URISyntaxException;
+import java.nio.file.Files;
 import java.nio.file.Path;
 import java.util.ArrayList;
 import java.util.HashSet;
@@ -43,7 +46,8 @@ public final class SunBenchCompiled {
         System.out.println("rule " + rule + ": " + what);
     }
 
-    public static void main(String[] args) throws URISyntaxException, IllegalAccessException {
+    public static void main(String[] args) throws URISyntaxException, IllegalAccessException, IOException {
+        face();
         List<Class<?>> all = classes();
         for (Class<?> c : all) {
             fields(c);
@@ -57,6 +61,42 @@ public final class SunBenchCompiled {
             + (wrong == 0 ? "the rules are kept" : wrong + " rules are not kept"));
         if (wrong != 0) {
             System.exit(1);
+        }
+    }
+
+    /** The face as the document writes it out, against what can be seen of the class; no more and no less. */
+    private static void face() throws IllegalAccessException, IOException {
+        String document = Files.readString(Path.of("../shared/DOC.md"));
+        int begun = document.indexOf("```java");
+        String told = document.substring(begun, document.indexOf("```", begun + 3));
+        Set<String> due = new TreeSet<>();
+        Matcher method = Pattern.compile("public (\\w+ )?(\\w+)\\((.*?)\\);").matcher(told);
+        while (method.find()) {
+            String returned = method.group(1) == null ? "" : method.group(1);
+            due.add("public " + returned + method.group(2) + "(" + method.group(3).replaceAll(" \\w+(?=,|$)", "") + ")");
+        }
+        Matcher constant = Pattern.compile("(\\w+) = (-?\\d+)").matcher(told);
+        while (constant.find()) {
+            due.add("public static final int " + constant.group(1) + " = " + constant.group(2));
+        }
+        Set<String> shown = new TreeSet<>();
+        List<Executable> bodies = new ArrayList<>(List.of(SunBench.class.getDeclaredConstructors()));
+        bodies.addAll(List.of(SunBench.class.getDeclaredMethods()));
+        for (Executable body : bodies) {
+            if (!Modifier.isPrivate(body.getModifiers())) {
+                shown.add(body.toString().replace("SunBench.", "").replace(",", ", "));
+            }
+        }
+        for (Field f : SunBench.class.getDeclaredFields()) {
+            if (!Modifier.isPrivate(f.getModifiers())) {
+                shown.add(f.toString().replace("SunBench.", "") + " = " + f.get(null));
+            }
+        }
+        if (due.size() != 42 || !due.equals(shown)) {
+            blame(1, "the face is " + shown + ", due is " + due);
+        }
+        if (SunBench.class.getModifiers() != (Modifier.PUBLIC | Modifier.FINAL)) {
+            blame(1, "the class is " + Modifier.toString(SunBench.class.getModifiers()));
         }
     }
 
